@@ -111,7 +111,7 @@ public final class PageFile {
         if ((running & ~allowed) != 0) {
             return false;
         }
-        // A running measure is kept as 0: then it adds nothing to its list's box, which is never less than 0 for it.
+        // A running measure is kept as 0, so that it does not count: the greatest one of a list is never below 0.
         Item item = new Item(KIND_RULE,
                 (running & RUNNING_WIDTH) != 0 ? 0 : width,
                 (running & RUNNING_HEIGHT) != 0 ? 0 : height,

@@ -7,6 +7,7 @@ public final class FinishTest {
         noneIsMore(due);
         lengths(due);
         deepest(due);
+        deepestAfterAFault(due);
         largest(due);
         due.end();
     }
@@ -105,6 +106,29 @@ public final class FinishTest {
         due.same("all of them, one in another", end, 15 + 46 + 200);
         y.finish();
         due.bytes("100", y, end + 25, 0, 100, 0, 1);
+        PageFile z = new PageFile();
+        Due.spaces(z, 0, 1);
+        z.ship(0);
+        end = z.count(0);
+        z.finish();
+        due.bytes("0 with an empty page", z, end + 25, 0, 0, 0, 1);
+    }
+
+    private static void deepestAfterAFault(Due due) {
+        PageFile x = new PageFile();
+        Due.spaces(x, 0, 2);
+        x.open(false);
+        x.put(0, 0, false);
+        x.space(Due.LARGEST);
+        x.space(1);
+        x.space(-1);
+        x.close(0);
+        due.same("a page that can't be", Due.ship(x, 0), Due.UNSUPPORTED);
+        Due.spaces(x, 0, 2);
+        x.ship(0);
+        int end = x.count(0);
+        x.finish();
+        due.bytes("a page that could not be does not count", x, end + 25, 0, 1, 0, 1);
     }
 
     private static void largest(Due due) {

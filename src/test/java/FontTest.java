@@ -8,6 +8,7 @@ public final class FontTest {
         inTheFile(due);
         chosen(due);
         afterAFault(due);
+        allAtTheEnd(due);
         due.end();
     }
 
@@ -85,6 +86,22 @@ public final class FontTest {
         Due.ship(y, 0);
         page(y, 4, 4);
         due.bytes("its font is first used now", y, CONTENT, 141, 243, 4);
+    }
+
+    private static void allAtTheEnd(Due due) {
+        PageFile x = new PageFile();
+        x.open(false);
+        for (int k = 0; k < 32; k++) {
+            x.character(k, 0, 0, 0, 0);
+        }
+        x.close(0);
+        x.ship(0);
+        int end = x.count(0) + 29;
+        x.finish();
+        for (int k = 0; k < 32; k++) {
+            due.bytes("font " + k + " at the end", x, end + 17 * (31 - k), 243, k);
+        }
+        due.bytes("behind them", x, end + 17 * 32, 249);
     }
 
     private static void page(PageFile x, int first, int second) {

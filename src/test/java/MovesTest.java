@@ -9,12 +9,14 @@ public final class MovesTest {
         longerAgo(due);
         downLikewise(due);
         savedAndBack(due);
+        downSavedAndBack(due);
         eachPage(due);
+        afterAFault(due);
         onlyAhead(due);
         due.end();
     }
 
-    /** A page of one row: a space and a rule of font-free bytes for each number. */
+    /** A page of one row: for each number a space and a character that takes it back. */
     private static PageFile spaced(int... spaces) {
         PageFile x = new PageFile();
         x.open(false);
@@ -109,6 +111,52 @@ public final class MovesTest {
         due.bytes("the second box", x, CONTENT + 28, 142, 153, 19, 141, 148, 9);
         due.bytes("its second move", x, CONTENT + 43, 153, 8);
         due.bytes("the third box", x, CONTENT + 54, 142, 147, 167, 3, 141, 153, 9);
+    }
+
+    private static void downSavedAndBack(Due due) {
+        PageFile x = new PageFile();
+        x.open(false);
+        x.space(0);
+        x.close(2);
+        x.open(false);
+        x.put(2, 9, true);
+        x.put(2, 17, true);
+        x.put(2, 5, false);
+        x.close(1);
+        x.open(false);
+        x.put(1, 4, true);
+        x.put(1, 10, true);
+        x.put(1, 14, true);
+        x.put(1, 20, true);
+        x.close(0);
+        x.ship(0);
+        due.bytes("Y and Z", x, CONTENT, 141,
+                162, 4, 141, 167, 9, 141, 142, 162, 8, 141, 142, 167, 244, 141, 142, 142,
+                167, 6, 141, 162, 9, 141, 142, 167, 8, 141, 142, 162, 244, 141, 142, 142,
+                161, 141, 167, 9, 141, 142, 162, 8, 141, 142, 167, 244, 141, 142, 142,
+                166, 141, 162, 9, 141);
+    }
+
+    /** What a page that could not be written has kept is not there on the next one. */
+    private static void afterAFault(Due due) {
+        PageFile x = new PageFile();
+        x.open(false);
+        x.space(4);
+        x.rule(1, 1, 0, 0);
+        x.space(5);
+        x.rule(1, 1, 2, 0);
+        x.space(Due.LARGEST);
+        x.space(-Due.LARGEST);
+        x.close(0);
+        due.same("a page that can't be", Due.ship(x, 0), Due.UNSUPPORTED);
+        x.open(false);
+        x.space(5);
+        x.rule(1, 1, 0, 0);
+        x.space(4);
+        x.rule(1, 0, 2, 0);
+        x.close(0);
+        x.ship(0);
+        due.bytes("the next page", x, CONTENT, 162, 1, 141, 148, 5, 132, 0, 0, 0, 1, 0, 0, 0, 1, 153, 4, 167, 2, 132);
     }
 
     private static void eachPage(Due due) {

@@ -68,6 +68,14 @@ public final class RuleTest {
         x.rule(99, 8, 9, 1);
         x.close(0);
         due.sizes("nor in a column", x, 0, 7, 20, 9);
+        x.open(false);
+        x.rule(2, 5, 6, 6);
+        x.close(0);
+        due.sizes("alone in a row", x, 0, 2, 0, 0);
+        x.open(true);
+        x.rule(2, 5, 6, 1);
+        x.close(0);
+        due.sizes("alone in a column", x, 0, 0, 5, 6);
     }
 
     private static void limit(Due due) {
