@@ -3,7 +3,6 @@ public final class CharacterTest {
     public static void main(String[] args) {
         Due due = new Due("CharacterTest");
         refused(due);
-        limit(due);
         inTheFile(due);
         due.end();
     }
@@ -34,15 +33,6 @@ public final class CharacterTest {
         due.same("items", x.count(3), 4);
         x.close(0);
         due.sizes("their box", x, 0, 0, most, most);
-    }
-
-    private static void limit(Due due) {
-        PageFile x = new PageFile();
-        Due.fill(x, 1);
-        due.same("items", x.count(3), 2999);
-        due.yes("the 3000th item", x.character(0, 0, 0, 0, 0));
-        due.no("the 3001st item", x.character(0, 0, 0, 0, 0));
-        due.same("items", x.count(3), 3000);
     }
 
     private static void inTheFile(Due due) {

@@ -6,7 +6,6 @@ public final class CloseTest {
         rows(due);
         columns(due);
         sums(due);
-        limit(due);
         nested(due);
         due.end();
     }
@@ -151,20 +150,6 @@ public final class CloseTest {
         x.rule(0, 0, most, 0);
         x.rule(0, most, -most, 0);
         due.no("less a depth below 0", x.close(3));
-    }
-
-    private static void limit(Due due) {
-        PageFile x = new PageFile();
-        Due.fill(x, 0);
-        due.same("items", x.count(3), 3000);
-        due.no("no box more, though it would take another's place", x.close(6));
-        due.same("the list is open still", x.count(2), 1);
-        Due.ship(x, 7);
-        due.yes("when there are fewer", x.close(7));
-        PageFile y = new PageFile();
-        Due.fill(y, 1);
-        due.yes("the 3000th item", y.close(5));
-        due.same("items", y.count(3), 3000);
     }
 
     private static void nested(Due due) {

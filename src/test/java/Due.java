@@ -82,24 +82,4 @@ final class Due {
         }
         x.close(k);
     }
-
-    /** Brings an object to 3000 items less some, in few calls: registers 6 and 7 are used. */
-    static void fill(PageFile x, int less) {
-        spaces(x, 7, 100);
-        for (int i = 0; i < 4; i++) {
-            x.open(false);
-            x.put(7, 0, true);
-            x.put(7, 0, false);
-            x.close(7);
-        }
-        x.open(false);
-        while (x.put(7, 0, true)) {
-            continue;
-        }
-        x.close(6);
-        x.open(false);
-        while (x.count(3) < 3000 - less) {
-            x.space(0);
-        }
-    }
 }

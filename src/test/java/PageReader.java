@@ -6,7 +6,7 @@ import java.util.Map;
 
 /** Reads a whole file from its bytes alone: which characters and rules stand where, if their widths are told. */
 final class PageReader {
-    private final PageFile file;
+    private final int[] file;
     private final int length;
     private final Map<Integer, Integer> widths;
     private int at;
@@ -18,9 +18,9 @@ final class PageReader {
     String fault;
 
     /** A character's width is that of its font and code: widths has 256 * font + code. */
-    PageReader(PageFile file, Map<Integer, Integer> widths) {
+    PageReader(int[] file, Map<Integer, Integer> widths) {
         this.file = file;
-        this.length = file.count(0);
+        this.length = file.length;
         this.widths = new HashMap<>(widths);
     }
 
@@ -45,9 +45,13 @@ final class PageReader {
     }
 
     private long number(int bytes) {
-        long number = file.byteAt(at) >= 128 ? -1 : 0;
+        if (at + bytes > length) {
+            fault = "no byte " + length;
+            return 0;
+        }
+        long number = file[at] >= 128 ? -1 : 0;
         for (int i = 0; i < bytes; i++) {
-            number = number << 8 | file.byteAt(at++);
+            number = number << 8 | file[at++];
         }
         return number;
     }
@@ -109,7 +113,7 @@ final class PageReader {
 
     private void end(int place) {
         at = length;
-        while (at > 0 && file.byteAt(at - 1) == 223) {
+        while (at > 0 && file[at - 1] == 223) {
             at--;
         }
         int fillings = length - at;

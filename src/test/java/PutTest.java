@@ -5,7 +5,6 @@ public final class PutTest {
         refused(due);
         joins(due);
         copies(due);
-        limit(due);
         due.end();
     }
 
@@ -61,23 +60,5 @@ public final class PutTest {
         x.ship(1);
         due.bytes("each with its shift, whatever came into the register", x, 60, 162, 24, 141, 167, 4, 141);
         due.bytes("the second copy", x, 85, 142, 148, 10, 162, 248, 141, 65, 142, 142, 140, PageFile.NONE);
-    }
-
-    private static void limit(Due due) {
-        PageFile x = new PageFile();
-        Due.spaces(x, 0, 5);
-        Due.fill(x, 5);
-        due.same("items", x.count(3), 2995);
-        due.yes("a copy makes 3000", x.put(0, 0, true));
-        due.same("items", x.count(3), 3000);
-        due.no("a copy more", x.put(0, 0, true));
-        due.yes("the box itself", x.put(0, 0, false));
-        due.same("items", x.count(3), 3000);
-        PageFile y = new PageFile();
-        Due.spaces(y, 0, 5);
-        Due.fill(y, 4);
-        due.no("a copy would make 3001", y.put(0, 0, true));
-        due.same("items", y.count(3), 2996);
-        due.yes("the box itself", y.put(0, 0, false));
     }
 }

@@ -7,7 +7,6 @@ public final class RuleTest {
         refused(due);
         running(due);
         measures(due);
-        limit(due);
         inRows(due);
         inColumns(due);
         due.end();
@@ -76,13 +75,6 @@ public final class RuleTest {
         x.rule(2, 5, 6, 1);
         x.close(0);
         due.sizes("alone in a column", x, 0, 0, 5, 6);
-    }
-
-    private static void limit(Due due) {
-        PageFile x = new PageFile();
-        Due.fill(x, 1);
-        due.yes("the 3000th item", x.rule(0, 0, 0, 0));
-        due.no("the 3001st item", x.rule(0, 0, 0, 0));
     }
 
     private static void inRows(Due due) {

@@ -7,7 +7,6 @@ public final class ShipTest {
         refused(due);
         pages(due);
         boxes(due);
-        full(due);
         due.end();
     }
 
@@ -67,68 +66,5 @@ public final class ShipTest {
                 153, 3, 162, 250, 141, 243, 0, 0, 0, 0, 0, 0, 0, 0, 0, 0, 0, 0, 0, 0, 1, 65, 171, 65, 142,
                 148, 250, 167, 6, 141, 65, 142,
                 142, 153, 13, 162, 252, 141, 65, 142, 142, 140, -1);
-    }
-
-    private static void full(Due due) {
-        PageFile x = new PageFile();
-        fillFile(x, 199999);
-        due.same("the file", x.count(0), 199999);
-        Due.spaces(x, 0, 1);
-        due.same("not full yet", Due.ship(x, 0), 199999 + 46);
-        PageFile y = new PageFile();
-        fillFile(y, 200000);
-        due.same("the file", y.count(0), 200000);
-        Due.spaces(y, 0, 2);
-        int items = y.count(3);
-        int pages = y.count(1);
-        due.same("full", Due.ship(y, 0), Due.UNSUPPORTED);
-        due.same("nothing is changed: bytes", y.count(0), 200000);
-        due.same("nothing is changed: items", y.count(3), items);
-        due.same("nothing is changed: pages", y.count(1), pages);
-        due.same("full again", Due.ship(y, 0), Due.UNSUPPORTED);
-        due.same("full, and a void register", Due.ship(y, 3), Due.ILLEGAL);
-        due.same("full, and no register", Due.ship(y, 8), Due.ILLEGAL);
-        due.same("the end can be written", Due.finish(y), 200000 + 29 + 17 + 6 + 4);
-        due.same("full, and its end is written", Due.ship(y, 0), Due.ILLEGAL);
-    }
-
-    /** Ships rules until so many bytes are nearly there, then characters of a byte each for the rest. */
-    private static void fillFile(PageFile x, int target) {
-        x.open(false);
-        x.character(0, 1, 0, 0, 0);
-        x.close(0);
-        x.ship(0);
-        x.open(false);
-        for (int i = 0; i < 60; i++) {
-            x.rule(1, 1, 0, 0);
-        }
-        x.close(7);
-        for (int i = 0; i < 4; i++) {
-            x.open(false);
-            x.put(7, 0, true);
-            x.put(7, 0, false);
-            x.close(7);
-        }
-        while (x.count(0) < target - 9000) {
-            x.open(false);
-            x.put(7, 0, true);
-            x.close(0);
-            x.ship(0);
-        }
-        while (x.count(0) < target - 300) {
-            x.open(false);
-            for (int i = 0; i < 15; i++) {
-                x.rule(1, 1, 0, 0);
-            }
-            x.close(0);
-            x.ship(0);
-        }
-        int rest = target - x.count(0) - 49;
-        x.open(false);
-        for (int i = 0; i < rest; i++) {
-            x.character(0, 1, 0, 0, 0);
-        }
-        x.close(0);
-        x.ship(0);
     }
 }

@@ -26,10 +26,6 @@ public final class SpaceTest {
         x.space(-40);
         x.close(0);
         due.sizes("alone in a column", x, 0, 0, -40, 0);
-        PageFile full = new PageFile();
-        Due.fill(full, 1);
-        due.yes("the 3000th item", full.space(0));
-        due.no("the 3001st item", full.space(0));
         due.end();
     }
 }
