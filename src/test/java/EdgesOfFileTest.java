@@ -392,17 +392,31 @@ public final class EdgesOfFileTest {
 
     /** "they, and which was used longer ago, are saved at 141 and back at 142, with the place". */
     private void savedAndBack() {
-        Run run = run("saved and back").spaces(1, 2).takes(x -> x.open(ROW)).takes(x -> x.space(9));
-        run.takes(x -> x.put(1, 9, true)).takes(x -> x.space(8)).takes(x -> x.put(1, 17, false)).takes(x -> x.close(2));
-        run.takes(x -> x.open(ROW)).takes(x -> x.space(5)).takes(x -> x.put(2, 5, true));
-        run.takes(x -> x.space(-17 + 6)).takes(x -> x.put(2, 11, true));
-        run.takes(x -> x.space(-17 + 8)).takes(x -> x.put(2, 19, false));
-        run.takes(x -> x.space(-17 + 6)).takes(x -> x.rule(1, -24, 25, 0)).takes(x -> x.close(0)).ships(0);
-        run.bytes("the boxes", CONTENT, 141,
-                148, 5, 162, 5, 141, 153, 9, 167, 9, 141, 142, 148, 8, 162, 8, 141, 142, 142,
-                153, 6, 167, 6, 141, 148, 9, 162, 9, 141, 142, 153, 8, 167, 8, 141, 142, 142,
-                148, 8, 162, 8, 141, 153, 9, 167, 9, 141, 142, 147, 161, 141, 142, 142,
-                152, 166, 132, 0, 0, 0, 1, 0, 0, 0, 1, 142, 140, -1);
+        Run run = run("saved and back").spaces(1, 2);
+        staircase(run, 1, 0, 9, 8, 7).takes(x -> x.close(2));
+        staircase(run, 2, 24, 5, 6, 5, 6, 8, 5).takes(x -> x.close(0)).ships(0);
+        int[] second = {153, 9, 167, 9, 141, 142, 148, 8, 162, 8, 141, 142, 153, 7, 167, 7, 141, 142, 142};
+        int[] first = {148, 9, 162, 9, 141, 142, 153, 8, 167, 8, 141, 142, 148, 7, 162, 7, 141, 142, 142};
+        int[] kept = {153, 9, 167, 9, 141, 142, 147, 161, 141, 142, 153, 7, 167, 7, 141, 142, 142};
+        int[][] parts = {{141, 148, 5, 162, 5, 141}, second, {153, 6, 167, 6, 141}, first, {147, 161, 141}, second,
+            {152, 166, 141}, first, {148, 8, 162, 8, 141}, kept, {153, 5, 167, 5, 141}, first, {142, 140, -1}};
+        int place = CONTENT;
+        for (int[] part : parts) {
+            run.bytes("the boxes", place, part);
+            place += part.length;
+        }
+    }
+
+    /** A row of copies of the box of register k, each of them so much to the right of the one before, and below. */
+    private static Run staircase(Run run, int k, int width, int... moves) {
+        run.takes(x -> x.open(ROW)).takes(x -> x.space(width));
+        int shift = 0;
+        for (int by : moves) {
+            shift += by;
+            int below = shift;
+            run.takes(x -> x.space(by - width)).takes(x -> x.put(k, below, true));
+        }
+        return run;
     }
 
     /** "Of a vertical one the items stand from its top down": by height and depth, not by width; space by its width. */
