@@ -35,6 +35,7 @@ final class Run {
     }
 
     private int make(Call call, boolean leavesNothing) {
+        withinLimit(1);
         steps.add(new Step(call, leavesNothing));
         return call.on(x);
     }
