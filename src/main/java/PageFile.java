@@ -532,7 +532,7 @@ public final class PageFile {
             if (!isSize(move)) {
                 return false;
             }
-            boolean takesSecond = move == second || move != first && secondIsOlder;
+            boolean takesSecond = move != first && (move == second || secondIsOlder);
             int kept = takesSecond ? second : first;
             int bytes = move == kept ? 0 : fewestBytes(move);
             out.add((takesSecond ? command + SECOND_MOVE : command) + bytes, 1);
